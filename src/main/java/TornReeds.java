@@ -49,7 +49,7 @@ public final class TornReeds {
         }
         list = new WordList();
         papyrus = new Sheet();
-        search = new Search(papyrus, list);
+        search = new Search();
         worms = new Roll();
         text = new KnownText();
     }
@@ -203,18 +203,18 @@ public final class TornReeds {
         }
         boolean joined = false;
         if (second == null) {
-            joined = search.joinAlone(first);
+            joined = search.joinAlone(first, papyrus, list);
         } else if (first.number < second.number) {
-            joined = search.joinBoth(first, second);
+            joined = search.joinBoth(first, second, papyrus, list);
         } else {
-            joined = search.joinBoth(second, first);
+            joined = search.joinBoth(second, first, papyrus, list);
         }
         return joined ? papyrus.wholeWorth() : NO_JOIN;
     }
 
     public int joins(int a) {
         Bit bit = looseBit(a);
-        return bit == null ? NONE : search.countAlone(bit);
+        return bit == null ? NONE : search.countAlone(bit, papyrus, list);
     }
 
     // ---- rolls, known texts
@@ -320,7 +320,7 @@ public final class TornReeds {
     }
 
     private static boolean isText(int sign) {
-        return sign == '.' || isLetter(sign);
+        return sign == '.' || (sign >= 'a' && sign <= 'z');
     }
 
     /** The bytes that were fed and not yet used. */
@@ -545,7 +545,7 @@ public final class TornReeds {
         }
 
         private static int indexOf(int sign) {
-            return isLetter(sign) ? sign - 'a' : ANY;
+            return sign >= 'a' && sign <= 'z' ? sign - 'a' : ANY;
         }
 
         void beginRun(boolean closed) {
@@ -659,7 +659,10 @@ public final class TornReeds {
         }
 
         int signAt(int row, int column) {
-            return isInside(row, column) ? signs[row * SHEET_COLUMNS + column] : '_';
+            if (row < 0 || row >= SHEET_ROWS || column < 0 || column >= SHEET_COLUMNS) {
+                return '_';
+            }
+            return signs[row * SHEET_COLUMNS + column];
         }
 
         int ownerAt(int row, int column) {
@@ -867,26 +870,52 @@ public final class TornReeds {
             }
             for (int row = 1 - BIT_ROWS; row < SHEET_ROWS; row++) {
                 for (int column = 1 - BIT_COLUMNS; column < SHEET_COLUMNS; column++) {
-                    if (sheet.hasRoom(bit, row, column)) {
-                        consider(bit, row, column, touchingOnly, sheet, list);
+                    if (!sheet.hasRoom(bit, row, column)) {
+                        continue;
+                    }
+                    int sides = sheet.sidesOf(bit, row, column);
+                    int fibres = sheet.fibreWorth(bit, row, column);
+                    if (fibres == NONE || (touchingOnly && sides == 0)) {
+                        continue;
+                    }
+                    if (sheet.runsCanWith(bit, row, column, list)) {
+                        add(row, column, fibres + sides, sides > 0);
                     }
                 }
             }
         }
 
-        private void consider(Bit bit, int row, int column, boolean touchingOnly, Sheet sheet, WordList list) {
-            int fibres = sheet.fibreWorth(bit, row, column);
-            int sides = sheet.sidesOf(bit, row, column);
-            if (fibres == NONE || count >= SHEET_CELLS || (touchingOnly && sides == 0)) {
-                return;
-            }
-            if (sheet.runsCanWith(bit, row, column, list)) {
+        private void add(int row, int column, int gain, boolean touches) {
+            if (count < SHEET_CELLS) {
                 rows[count] = row;
                 columns[count] = column;
-                gains[count] = fibres + sides;
-                touching[count] = sides > 0;
+                gains[count] = gain;
+                touching[count] = touches;
                 count++;
             }
+        }
+
+        /** The greatest gain's first place; NONE when there is no place. */
+        int best() {
+            int best = NONE;
+            for (int i = 0; i < count; i++) {
+                if (best == NONE || gains[i] > gains[best]) {
+                    best = i;
+                }
+            }
+            return best;
+        }
+
+        /** Writes down which places touch, and answers how many. */
+        int listTouching(int[] touched) {
+            int found = 0;
+            for (int i = 0; i < count && found < touched.length; i++) {
+                if (touching[i]) {
+                    touched[found] = i;
+                    found++;
+                }
+            }
+            return found;
         }
     }
 
@@ -958,33 +987,22 @@ public final class TornReeds {
 
     /** Tries all places for the best JOIN. */
     private static final class Search {
-        final Sheet sheet;
-        final WordList list;
         final Places firstPlaces = new Places();
         final Places secondPlaces = new Places();
+        final int[] touched = new int[SHEET_CELLS];
         final Pairing pairing = new Pairing();
         int bestGain;
         int bestFirst;
         int bestSecond;
 
-        Search(Sheet sheet, WordList list) {
-            this.sheet = sheet;
-            this.list = list;
-        }
-
-        int countAlone(Bit bit) {
+        int countAlone(Bit bit, Sheet sheet, WordList list) {
             firstPlaces.collect(bit, true, sheet, list);
             return firstPlaces.count;
         }
 
-        boolean joinAlone(Bit bit) {
+        boolean joinAlone(Bit bit, Sheet sheet, WordList list) {
             firstPlaces.collect(bit, true, sheet, list);
-            int best = NONE;
-            for (int i = 0; i < firstPlaces.count; i++) {
-                if (best == NONE || firstPlaces.gains[i] > firstPlaces.gains[best]) {
-                    best = i;
-                }
-            }
+            int best = firstPlaces.best();
             if (best == NONE) {
                 return false;
             }
@@ -993,19 +1011,22 @@ public final class TornReeds {
         }
 
         /** Joins two BITS; the first one has the lesser number, so its place settles ties. */
-        boolean joinBoth(Bit first, Bit second) {
+        boolean joinBoth(Bit first, Bit second, Sheet sheet, WordList list) {
             firstPlaces.collect(first, false, sheet, list);
             secondPlaces.collect(second, false, sheet, list);
             pairing.compare(first, second);
+            int touchedCount = secondPlaces.listTouching(touched);
             bestGain = NONE;
             for (int i = 0; i < firstPlaces.count; i++) {
-                sheet.write(first, firstPlaces.rows[i], firstPlaces.columns[i]);
-                for (int k = 0; k < secondPlaces.count; k++) {
-                    if (firstPlaces.touching[i] || secondPlaces.touching[k]) {
-                        weigh(second, i, k);
+                if (firstPlaces.touching[i]) {
+                    for (int k = 0; k < secondPlaces.count; k++) {
+                        weigh(first, i, second, k, sheet, list);
+                    }
+                } else {
+                    for (int t = 0; t < touchedCount; t++) {
+                        weigh(first, i, second, touched[t], sheet, list);
                     }
                 }
-                sheet.wipe(first, firstPlaces.rows[i], firstPlaces.columns[i]);
             }
             if (bestGain == NONE) {
                 return false;
@@ -1015,28 +1036,41 @@ public final class TornReeds {
             return true;
         }
 
-        /** Weighs two places, one of which touches a BIT that lies; the first BIT's signs are written. */
-        private void weigh(Bit second, int i, int k) {
-            int rowShift = secondPlaces.rows[k] - firstPlaces.rows[i];
-            int columnShift = secondPlaces.columns[k] - firstPlaces.columns[i];
-            int sides = pairing.sidesAt(rowShift, columnShift);
-            int across = pairing.acrossAt(rowShift);
-            int down = pairing.downAt(columnShift);
-            boolean touch = sides > 0 || (firstPlaces.touching[i] && secondPlaces.touching[k]);
-            if (!touch || sides == NONE || across == NONE || down == NONE) {
-                return;
-            }
-            int gain = firstPlaces.gains[i] + secondPlaces.gains[k] + sides + across + down;
+        /** Keeps two places, one of which touches a BIT that lies, if they make a better JOIN. */
+        private void weigh(Bit first, int i, Bit second, int k, Sheet sheet, WordList list) {
+            int gain = gainOf(i, k);
             if (gain <= bestGain) {
                 return;
             }
+            boolean can = true;
             // Each BIT alone was found to make no wrong RUN, so only ROWS that both have can hold one.
-            if (!pairing.rowsMeet(rowShift)
-                    || sheet.runsCanWith(second, secondPlaces.rows[k], secondPlaces.columns[k], list)) {
+            if (pairing.rowsMeet(secondPlaces.rows[k] - firstPlaces.rows[i])) {
+                sheet.write(first, firstPlaces.rows[i], firstPlaces.columns[i]);
+                can = sheet.runsCanWith(second, secondPlaces.rows[k], secondPlaces.columns[k], list);
+                sheet.wipe(first, firstPlaces.rows[i], firstPlaces.columns[i]);
+            }
+            if (can) {
                 bestGain = gain;
                 bestFirst = i;
                 bestSecond = k;
             }
+        }
+
+        /** What two places add to THE SHEET's WORTH; NONE when the BITS may not lie so, whatever the words. */
+        private int gainOf(int i, int k) {
+            int rowShift = secondPlaces.rows[k] - firstPlaces.rows[i];
+            int columnShift = secondPlaces.columns[k] - firstPlaces.columns[i];
+            int sides = pairing.sidesAt(rowShift, columnShift);
+            boolean touch = sides > 0 || (firstPlaces.touching[i] && secondPlaces.touching[k]);
+            if (!touch || sides == NONE) {
+                return NONE;
+            }
+            int across = pairing.acrossAt(rowShift);
+            int down = pairing.downAt(columnShift);
+            if (across == NONE || down == NONE) {
+                return NONE;
+            }
+            return firstPlaces.gains[i] + secondPlaces.gains[k] + sides + across + down;
         }
     }
 

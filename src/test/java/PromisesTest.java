@@ -25,6 +25,10 @@ public final class PromisesTest {
         joinOfOne();
         joinOfTwo();
         joinOfTwoByWords();
+        joinOfTwoLargeOnes();
+        joinOfTwoTurnedOnes();
+        joinOfTwoByShiftedFibres();
+        joinOfTwoThatTouch();
         joinRefused();
         joins();
         roll();
@@ -292,6 +296,14 @@ public final class PromisesTest {
         x.fibre(1, true, 0, 5);
         due.is("8: none if they are alike", x.lay(1, 4, 31), true);
         x.take(1);
+        due.is("8: alike in a ROW, unlike in the column", x.lay(1, 4, 5), false);
+        x.fibre(1, true, 0, 4);
+        x.fibre(1, false, 0, 6);
+        due.is("8: alike in a column, unlike in the ROW", x.lay(1, 4, 5), false);
+        x.fibre(1, true, 0, 5);
+        due.is("8: alike in both", x.lay(1, 4, 5), true);
+        due.is("15: in both, and at two sides", x.worth(), 6);
+        x.take(1);
         x.fibre(1, true, 0, 0);
         x.fibre(1, true, 1, 9);
         due.is("8: nor by a FIBRE of its own without CELL", x.lay(1, 3, 0), true);
@@ -330,6 +342,10 @@ public final class PromisesTest {
         due.is("8: no whole word", x.lay(7, 10, 0), false);
         Due.bit(x, 8, "edpa");
         due.is("8: no word goes on into the next one", x.lay(8, 11, 0), false);
+        Due.bit(x, 8, "ree__q");
+        due.is("8: each of a BIT's RUNS", x.lay(8, 11, 0), false);
+        Due.bit(x, 8, "ree;;_q");
+        due.is("8: in each of its ROWS", x.lay(8, 11, 0), false);
         Due.bit(x, 9, "papyrusr");
         due.is("8: nor the other way", x.lay(9, 12, 0), false);
         oldRunsCount();
@@ -582,6 +598,13 @@ public final class PromisesTest {
         due.is("16: a place without THE SHEET", z.join(1, -1), 1);
         due.is("16: its row", z.place(1, 0), -1);
         due.is("16: its column", z.place(1, 1), 0);
+        z.take(1);
+        z.take(0);
+        z.lay(0, 0, 1);
+        due.is("16: as far without as can be", z.join(1, -1), 1);
+        due.is("16: its row", z.place(1, 0), -4);
+        due.is("16: its column", z.place(1, 1), -9);
+        due.is("16: its CELL", z.whose(0, 0), 1);
     }
 
     private static void joinOfTwo() {
@@ -663,6 +686,162 @@ public final class PromisesTest {
         Due.bit(y, 2, "b");
         y.lay(0, 0, 0);
         due.is("16: a RUN that one breaks is not mended by the other", y.join(1, 2), -2);
+    }
+
+    /** BITS as high and as wide as can be, that QUARREL unless one is above or ahead of the other. */
+    private static void joinOfTwoLargeOnes() {
+        TornReeds x = new TornReeds();
+        Due.bit(x, 0, "a");
+        Due.bit(x, 1, "b;b;b;b;b");
+        Due.bit(x, 2, "c;c;c;c;c");
+        TornReeds y = new TornReeds();
+        Due.bit(y, 0, "a");
+        Due.bit(y, 1, "bbbbbbbbbb");
+        Due.bit(y, 2, "cccccccccc");
+        for (int b = 0; b < 3; b++) {
+            x.fibre(b, false, 0, 7);
+            y.fibre(b, true, 0, 7);
+            for (int i = 0; i < 10; i++) {
+                x.fibre(b, true, i, 1 + b);
+                y.fibre(b, false, i, 1 + b);
+            }
+        }
+        x.lay(0, 15, 20);
+        due.is("16: one above the other", x.join(1, 2), 8);
+        due.is("16: the lesser number on top", x.place(1, 0), 5);
+        due.is("16: the other one below it", x.place(2, 0), 10);
+        x.take(1);
+        x.take(2);
+        x.take(0);
+        x.lay(0, 0, 20);
+        due.is("16: one below the other", x.join(1, 2), 8);
+        due.is("16: the lesser number by what lay", x.place(1, 0), 1);
+        due.is("16: the other one farther on", x.place(2, 0), 6);
+        y.lay(0, 15, 31);
+        due.is("16: one ahead of the other", y.join(1, 2), 8);
+        due.is("16: the lesser number first", y.place(1, 1), 11);
+        due.is("16: the other one behind it", y.place(2, 1), 21);
+        y.take(1);
+        y.take(2);
+        y.take(0);
+        y.lay(0, 15, 0);
+        due.is("16: one behind the other", y.join(1, 2), 8);
+        due.is("16: the lesser number by what lay", y.place(1, 1), 1);
+        due.is("16: the other one farther on", y.place(2, 1), 11);
+    }
+
+    /** The greater number can reach what lay by the lesser one alone, which is below it or behind it. */
+    private static void joinOfTwoTurnedOnes() {
+        TornReeds x = new TornReeds();
+        Due.bit(x, 0, ".");
+        Due.bit(x, 1, ".;.;.;.;.");
+        Due.bit(x, 2, ".;.;.;.;.");
+        TornReeds y = new TornReeds();
+        Due.bit(y, 0, ".");
+        Due.bit(y, 1, "..........");
+        Due.bit(y, 2, "..........");
+        x.fibre(0, true, 0, 9);
+        y.fibre(0, false, 0, 9);
+        for (int i = 0; i < 10; i++) {
+            x.fibre(1, true, i, 9);
+            x.fibre(2, true, i, 2);
+            y.fibre(1, false, i, 9);
+            y.fibre(2, false, i, 2);
+        }
+        Due.bit(x, 3, ".");
+        Due.bit(y, 3, ".");
+        x.lay(0, 14, 0);
+        x.lay(3, 15, 20);
+        due.is("16: the greater number on top", x.join(1, 2), 4);
+        due.is("16: the lesser one's row", x.place(1, 0), 10);
+        due.is("16: the lesser one's column", x.place(1, 1), 1);
+        due.is("16: the greater one's row", x.place(2, 0), 5);
+        due.is("16: the greater one's column", x.place(2, 1), 1);
+        y.lay(0, 0, 30);
+        y.lay(3, 10, 31);
+        due.is("16: the greater number ahead", y.join(2, 1), 4);
+        due.is("16: the lesser one's row", y.place(1, 0), 1);
+        due.is("16: the lesser one's column", y.place(1, 1), 21);
+        due.is("16: the greater one's row", y.place(2, 0), 1);
+        due.is("16: the greater one's column", y.place(2, 1), 11);
+    }
+
+    private static void joinOfTwoByShiftedFibres() {
+        TornReeds x = new TornReeds();
+        Due.bit(x, 0, "a");
+        Due.bit(x, 1, "b;b");
+        Due.bit(x, 2, "c;c");
+        x.fibre(1, true, 1, 4);
+        x.fibre(2, true, 0, 4);
+        x.fibre(2, true, 1, 5);
+        x.lay(0, 5, 5);
+        due.is("16: by FIBRES of unlike ROWS", x.join(1, 2), 5);
+        due.is("16: the lesser number above what lay", x.place(1, 0), 3);
+        due.is("16: the lesser number above what lay", x.place(1, 1), 5);
+        due.is("16: the other one ahead of it", x.place(2, 0), 4);
+        due.is("16: the other one ahead of it", x.place(2, 1), 4);
+        TornReeds y = new TornReeds();
+        Due.bit(y, 0, "a");
+        Due.bit(y, 1, "bb");
+        Due.bit(y, 2, "cc");
+        y.fibre(1, false, 1, 4);
+        y.fibre(2, false, 0, 4);
+        y.fibre(2, false, 1, 5);
+        y.lay(0, 5, 5);
+        due.is("16: by FIBRES of unlike columns", y.join(1, 2), 5);
+        due.is("16: the lesser number above what lay", y.place(1, 0), 4);
+        due.is("16: the lesser number above what lay", y.place(1, 1), 5);
+        due.is("16: the other one behind it", y.place(2, 0), 5);
+        due.is("16: the other one behind it", y.place(2, 1), 6);
+    }
+
+    /** FIBRES that are alike are worth nothing where a BIT TOUCHES none. */
+    private static void joinOfTwoThatTouch() {
+        TornReeds x = new TornReeds();
+        Due.bit(x, 0, "_______,;,;_______,");
+        for (int r = 0; r < 3; r++) {
+            x.fibre(0, true, r, 8);
+        }
+        x.fibre(0, false, 0, 9);
+        x.lay(0, 4, 5);
+        Due.bit(x, 1, ",");
+        Due.bit(x, 2, ",");
+        x.fibre(2, true, 0, 7);
+        x.fibre(2, false, 0, 9);
+        due.is("16: not in a column where it TOUCHES none", x.join(2, -1), 1);
+        due.is("16: above the farther CELL", x.place(2, 0), 3);
+        due.is("16: above the farther CELL", x.place(2, 1), 12);
+        x.take(2);
+        due.is("16: but there, if the other one is between", x.join(1, 2), 4);
+        due.is("16: which is above the nearer CELL", x.place(1, 0), 4);
+        due.is("16: both in that column", x.place(2, 1), 5);
+        x.take(1);
+        x.take(2);
+        x.fibre(1, true, 0, 6);
+        x.fibre(1, false, 0, 6);
+        due.is("16: the other one has a place", x.joins(1), 2);
+        due.is("16: so has this one", x.joins(2), 2);
+        due.is("16: but they QUARREL there", x.join(1, 2), -2);
+        TornReeds y = new TornReeds();
+        Due.bit(y, 0, "aaa");
+        Due.bit(y, 1, "b");
+        Due.bit(y, 2, "c");
+        y.fibre(1, true, 0, 1);
+        y.fibre(2, true, 0, 2);
+        y.fibre(1, false, 0, 3);
+        y.fibre(2, false, 0, 3);
+        y.lay(0, 5, 5);
+        due.is("16: alike in the column, not in one place", y.join(1, 2), 4);
+        due.is("16: the lesser number above both", y.place(1, 0), 3);
+        due.is("16: the other one between", y.place(2, 0), 4);
+        y.take(1);
+        y.take(2);
+        y.fibre(2, true, 0, 1);
+        y.fibre(2, false, 0, 4);
+        due.is("16: alike in the ROW, not in the column", y.join(1, 2), 5);
+        due.is("16: above what lay", y.place(1, 0), 4);
+        due.is("16: above its first CELL", y.place(1, 1), 5);
+        due.is("16: beside the lesser number", y.place(2, 1), 6);
     }
 
     private static void joinRefused() {
