@@ -320,6 +320,7 @@ public final class TornReeds {
     }
 
     private static boolean isText(int sign) {
+        // Letters are told anew, as this is at the end of the longest chain of calls.
         return sign == '.' || (sign >= 'a' && sign <= 'z');
     }
 

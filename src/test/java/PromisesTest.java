@@ -27,6 +27,7 @@ public final class PromisesTest {
         joinOfTwoByWords();
         joinOfTwoLargeOnes();
         joinOfTwoTurnedOnes();
+        joinOfTwoFarApart();
         joinOfTwoByShiftedFibres();
         joinOfTwoThatTouch();
         joinRefused();
@@ -173,6 +174,15 @@ public final class PromisesTest {
         x.fibre(1, true, 0, 4);
         due.is("4: its FIBRES went, too", x.lay(1, 2, 9), true);
         due.is("4: the new one can be laid", x.lay(0, 2, 2), true);
+        due.is("4: nothing of the old one is beside it", x.sheet(2, 3), '_');
+        x.take(0);
+        x.take(1);
+        x.lay(1, 2, 3);
+        x.lay(0, 2, 2);
+        due.is("4: it writes no more than it has", x.sheet(2, 3), 'f');
+        x.take(0);
+        due.is("4: nor wipes more", x.sheet(2, 3), 'f');
+        due.is("4: nor takes more", x.whose(2, 3), 1);
     }
 
     private static void cell() {
@@ -196,6 +206,8 @@ public final class PromisesTest {
         due.is("5: no such BIT", x.cell(4, 0, 0), -1);
         Due.bit(x, 3, "b");
         due.is("5: of an earlier BIT nothing stays", x.cell(3, 3, 9), '_');
+        Due.bit(x, 3, "_c");
+        due.is("5: nor in the first CELL", x.cell(3, 0, 0), '_');
     }
 
     private static void fibre() {
@@ -348,7 +360,29 @@ public final class PromisesTest {
         due.is("8: in each of its ROWS", x.lay(8, 11, 0), false);
         Due.bit(x, 9, "papyrusr");
         due.is("8: nor the other way", x.lay(9, 12, 0), false);
+        wordsAtTheirEnds();
         oldRunsCount();
+    }
+
+    private static void wordsAtTheirEnds() {
+        TornReeds x = new TornReeds();
+        Due.word(x, "ab");
+        Due.bit(x, 0, "ab.");
+        due.is("8: nothing behind a word's last letter", x.lay(0, 0, 0), false);
+        Due.bit(x, 0, "z");
+        due.is("8: z is a letter like others", x.lay(0, 0, 0), false);
+        due.is("8: by THE SHEET's end, too", x.lay(0, 0, 31), false);
+        Due.bit(x, 0, "b");
+        Due.bit(x, 1, ",");
+        due.is("8: an end", x.lay(0, 0, 31), true);
+        due.is("8: that must not be CLOSED ahead", x.lay(1, 0, 30), false);
+        due.is("8: but behind nothing", x.lay(1, 0, 29), true);
+        x.take(0);
+        x.take(1);
+        Due.bit(x, 0, "a");
+        due.is("8: a beginning", x.lay(0, 0, 0), true);
+        due.is("8: that must not be CLOSED behind", x.lay(1, 0, 1), false);
+        due.is("8: but ahead of nothing", x.lay(1, 0, 2), true);
     }
 
     private static void oldRunsCount() {
@@ -472,6 +506,9 @@ public final class PromisesTest {
         due.is("13: a RUN over two BITS", x.words(3, 5), 1);
         Due.word(x, "xaby");
         due.is("13: OPEN ahead alone", x.words(3, 3), 1);
+        Due.bit(x, 2, ",b");
+        x.lay(2, 0, 0);
+        due.is("13: CLOSED ahead alone", x.words(0, 1), 2);
     }
 
     private static void read() {
@@ -766,6 +803,23 @@ public final class PromisesTest {
         due.is("16: the greater one's column", y.place(2, 1), 11);
     }
 
+    /** Two that are joined far from each other, where no ROW and no column has both. */
+    private static void joinOfTwoFarApart() {
+        TornReeds x = new TornReeds();
+        for (int b = 0; b < 4; b++) {
+            Due.bit(x, b, "a");
+            x.fibre(b, true, 0, 1 + b % 2);
+        }
+        Due.word(x, "aa");
+        x.lay(0, 0, 0);
+        x.lay(1, 15, 31);
+        due.is("16: each in the ROW of its FIBRE", x.join(2, 3), 6);
+        due.is("16: the lesser number's row", x.place(2, 0), 0);
+        due.is("16: the lesser number's column", x.place(2, 1), 1);
+        due.is("16: the other one's row", x.place(3, 0), 15);
+        due.is("16: the other one's column", x.place(3, 1), 30);
+    }
+
     private static void joinOfTwoByShiftedFibres() {
         TornReeds x = new TornReeds();
         Due.bit(x, 0, "a");
@@ -986,6 +1040,11 @@ public final class PromisesTest {
         x.hole(4, 10);
         due.is("20: from the first HOLE on", x.stood(4), 1);
         due.is("20: from the first HOLE on", x.standing(4, 0), 0);
+        Due.bit(x, 5, "f");
+        x.hole(5, 10);
+        due.is("20: a HOLE at the place itself is seen, too", x.stood(5), 0);
+        Due.bit(x, 5, "f");
+        due.is("21: with a ROLL, without a hole", x.standing(5, 0), -1);
     }
 
     private static void standing() {
@@ -1086,6 +1145,7 @@ public final class PromisesTest {
         Due.bit(x, 2, ";;;;b");
         due.is("24: four lines ahead of the text", x.letter(2, 60, 0), -239);
         due.is("24: both of them", x.letter(2, 60, 1), -235);
+        due.is("23: both of them", x.stands(2, 60), 2);
         Due.bit(x, 3, "_a");
         due.is("24: i is in the same line", x.letter(3, 9, 0), 2);
         due.is("24: so the first a has none", x.stands(3, 9), 2);
