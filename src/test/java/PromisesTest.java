@@ -28,6 +28,7 @@ public final class PromisesTest {
         joinOfTwoLargeOnes();
         joinOfTwoTurnedOnes();
         joinOfTwoFarApart();
+        joinOfTwoInTheCorner();
         joinOfTwoByShiftedFibres();
         joinOfTwoThatTouch();
         joinRefused();
@@ -818,6 +819,25 @@ public final class PromisesTest {
         due.is("16: the lesser number's column", x.place(2, 1), 1);
         due.is("16: the other one's row", x.place(3, 0), 15);
         due.is("16: the other one's column", x.place(3, 1), 30);
+    }
+
+    /** The lesser number can't TOUCH what lay; the other one does so at the first of all places. */
+    private static void joinOfTwoInTheCorner() {
+        TornReeds x = new TornReeds();
+        for (int b = 0; b < 3; b++) {
+            Due.bit(x, b, "a");
+        }
+        x.fibre(0, true, 0, 6);
+        x.fibre(0, false, 0, 6);
+        x.fibre(1, true, 0, 5);
+        x.fibre(1, false, 0, 5);
+        x.lay(0, 0, 1);
+        due.is("16: the lesser number alone has no place", x.joins(1), 0);
+        due.is("16: with the other one it has", x.join(1, 2), 2);
+        due.is("16: its row", x.place(1, 0), 1);
+        due.is("16: its column", x.place(1, 1), 0);
+        due.is("16: the other one's row", x.place(2, 0), 0);
+        due.is("16: the other one's column", x.place(2, 1), 0);
     }
 
     private static void joinOfTwoByShiftedFibres() {
