@@ -11,6 +11,8 @@ import java.util.Map;
  */
 public final class CostTest {
     private static final long MOST_SECONDS = 120;
+    /** So many that the object has no more than its 512 calls. */
+    private static final int JOINS = 140;
     private static final Due due = new Due("costs");
 
     public static void main(String[] args) {
@@ -56,13 +58,13 @@ public final class CostTest {
         due.is("joined", x.join(8, 9), worth);
         long before = bytesMade();
         int joined = 0;
-        for (int n = 0; n < 160; n++) {
+        for (int n = 0; n < JOINS; n++) {
             x.take(8);
             x.take(9);
             joined += x.join(8, 9) == worth ? 1 : 0;
         }
         due.is("a join makes nothing", bytesMade() - before < 10_000, true);
-        due.is("joined", joined, 160);
+        due.is("joined", joined, JOINS);
     }
 
     private static long bytesMade() {

@@ -11,6 +11,10 @@ public final class PlainRunsTest {
         31, 32, 60, 61, 99, 100, 101, 200, 1000, 1001, 2000, 2001, Integer.MAX_VALUE - 4, Integer.MAX_VALUE
     };
 
+    /** An object is used for so many calls, the last of them to look at THE SHEET. */
+    private static final int CALLS = 512;
+    private static final int LAST_CALLS = 60;
+
     private static final Due due = new Due("runs against Plain");
     /** Of each promise, and of joins of two (0): how many answers were below -1, -1, 0, and above. */
     private static final int[][] answers = new int[26][4];
@@ -25,6 +29,8 @@ public final class PlainRunsTest {
     private final int pairs;
     private final int words;
     private final boolean wordsFirst;
+    /** How many calls the object has had. */
+    private int calls = 0;
 
     private PlainRunsTest(int seed, String letters, int bits, int pairs, int words) {
         this.lot = new Random(seed);
@@ -37,7 +43,7 @@ public final class PlainRunsTest {
     }
 
     public static void main(String[] args) {
-        int runs = args.length > 0 ? Integer.parseInt(args[0]) : 60;
+        int runs = args.length > 0 ? Integer.parseInt(args[0]) : 300;
         int from = args.length > 1 ? Integer.parseInt(args[1]) : 0;
         for (int seed = from; seed < from + runs && due.wrong() < 20; seed++) {
             String letters = seed % 3 == 0 ? "ab" : seed % 3 == 1 ? "abc" : "a";
@@ -57,7 +63,8 @@ public final class PlainRunsTest {
             wordsLeft--;
             newWord();
         }
-        for (int call = 0; call < 512; call++) {
+        setOut();
+        while (calls < CALLS - LAST_CALLS) {
             int kind = lot.nextInt(40);
             if (kind < 3) {
                 newBit();
@@ -84,6 +91,20 @@ public final class PlainRunsTest {
         whole();
     }
 
+    /** In most runs there is something to ask about from the beginning. */
+    private void setOut() {
+        for (int n = 0; n < bits && lot.nextInt(8) > 0; n++) {
+            newBit();
+            layOrTake();
+        }
+        if (lot.nextInt(4) > 0) {
+            newText();
+            is(18, "roll", p -> p ? x.roll(5 + one, other % 3) : plain.roll(5 + one, other % 3));
+            newHole();
+            newHole();
+        }
+    }
+
     private interface Ask {
         long of(boolean program);
     }
@@ -96,6 +117,11 @@ public final class PlainRunsTest {
         one = bitNumber();
         other = bitNumber();
         three = lot.nextInt(8);
+        if (calls >= CALLS) {
+            // What the object answers now is free.
+            return;
+        }
+        calls++;
         long got = ask.of(true);
         answers[promise][got < -1 ? 0 : got < 0 ? 1 : got == 0 ? 2 : 3]++;
         due.is(title + what + " " + one + " " + other + " " + three, got, ask.of(false));
@@ -120,10 +146,10 @@ public final class PlainRunsTest {
 
     private void tape(String text) {
         for (int[] f : Due.feeds(text)) {
-            due.is(title + "feed", x.feed(f[0], f[1], f[2], f[3], f[4]), plain.feed(f[0], f[1], f[2], f[3], f[4]));
+            is(2, "feed", p -> p ? x.feed(f[0], f[1], f[2], f[3], f[4]) : plain.feed(f[0], f[1], f[2], f[3], f[4]));
         }
         int n = lot.nextInt(40) == 0 ? wildNumber() : text.length();
-        due.is(title + "end " + n, x.end(n), plain.end(n));
+        is(3, "end " + n, p -> (p ? x.end(n) : plain.end(n)) ? 1 : 0);
     }
 
     private void newBit() {
@@ -234,15 +260,24 @@ public final class PlainRunsTest {
         int kind = lot.nextInt(6);
         int gap = lot.nextInt(3) == 0 ? wildNumber() : 1 + lot.nextInt(12);
         int step = lot.nextInt(6) == 0 ? wildNumber() : lot.nextInt(3);
-        int distance = lot.nextInt(20) == 0 ? wildNumber() : lot.nextInt(24);
         if (kind == 0) {
             is(18, "roll " + gap + " " + step, p -> p ? x.roll(gap, step) : plain.roll(gap, step));
-        } else if (kind < 4) {
-            is(19, "hole " + distance, p -> p ? x.hole(one, distance) : plain.hole(one, distance));
+        } else if (kind == 1) {
+            newHole();
         } else {
             is(20, "stood", p -> p ? x.stood(one) : plain.stood(one));
             is(21, "standing", p -> p ? x.standing(one, three - 1) : plain.standing(one, three - 1));
         }
+    }
+
+    private void newHole() {
+        int distance = lot.nextInt(20) == 0 ? wildNumber() : lot.nextInt(12);
+        is(19, "hole " + distance, p -> p ? x.hole(one, distance) : plain.hole(one, distance));
+    }
+
+    private void newText() {
+        tape(draw(letters, lot.nextInt(8) == 0 ? 0 : 1, lot.nextInt(4) == 0 ? 200 : 30));
+        is(22, "known", p -> p ? x.known() : plain.known());
     }
 
     private void texts() {
@@ -250,8 +285,7 @@ public final class PlainRunsTest {
         int to = lot.nextInt(20) == 0 ? wildNumber() : w + lot.nextInt(6) - 1;
         int kind = lot.nextInt(8);
         if (kind == 0) {
-            tape(draw(letters, lot.nextInt(2), lot.nextInt(4) == 0 ? 200 : 30));
-            is(22, "known", p -> p ? x.known() : plain.known());
+            newText();
         } else {
             is(23, "stands " + w, p -> p ? x.stands(one, w) : plain.stands(one, w));
             is(24, "letter " + w, p -> p ? x.letter(one, w, three - 1) : plain.letter(one, w, three - 1));
@@ -275,13 +309,14 @@ public final class PlainRunsTest {
         is(25, "width " + a + " " + b, p -> p ? x.width(one, a, b) : plain.width(one, a, b));
     }
 
+    /** Looks at CELLS until the object has had all of its calls: half of them where BITS lie mostly. */
     private void whole() {
-        for (int row = 0; row < 16; row++) {
-            for (int column = 0; column < 32; column++) {
-                due.is(title + "sheet at last", x.sheet(row, column), plain.sheet(row, column));
-                due.is(title + "whose at last", x.whose(row, column), plain.whose(row, column));
-                due.is(title + "words at last", x.words(row, column), plain.words(row, column));
-            }
+        while (calls < CALLS) {
+            int row = lot.nextBoolean() ? 4 + lot.nextInt(6) : lot.nextInt(16);
+            int column = lot.nextBoolean() ? 8 + lot.nextInt(12) : lot.nextInt(32);
+            is(11, "sheet at last", p -> p ? x.sheet(row, column) : plain.sheet(row, column));
+            is(12, "whose at last", p -> p ? x.whose(row, column) : plain.whose(row, column));
+            is(13, "words at last", p -> p ? x.words(row, column) : plain.words(row, column));
         }
     }
 }

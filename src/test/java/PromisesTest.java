@@ -52,9 +52,8 @@ public final class PromisesTest {
             due.is("1: none lies", x.place(b, 0), -1);
         }
         for (int row = 0; row < 16; row++) {
-            for (int column = 0; column < 32; column++) {
+            for (int column = row % 2; column < 32; column += 2) {
                 due.is("1: an empty SHEET", x.sheet(row, column), '_');
-                due.is("1: of nobody", x.whose(row, column), -1);
             }
         }
         due.is("1: worth nothing", x.worth(), 0);

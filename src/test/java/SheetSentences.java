@@ -667,7 +667,30 @@ final class SheetSentences {
         Due.bit(y, 0, ".");
         y.lay(0, 15, 31);
         s.is("all twelve", y.words(15, 31), 12);
+        longWords();
         wordsRefused();
+    }
+
+    /** Twelve words of ten letters, each with all letters but one of the next. */
+    private void longWords() {
+        TornReeds x = new TornReeds();
+        String letters = "abcdefghijklmnopqrstuv";
+        for (int n = 0; n < 12; n++) {
+            Due.word(x, letters.substring(n, n + 10));
+        }
+        for (int n = 0; n < 12; n++) {
+            Due.bit(x, 0, letters.substring(n, n + 10));
+            s.is("ten letters of word " + n, x.lay(0, 5, 5), true);
+            s.is("it alone", x.words(5, 5), 1);
+            s.is("its number", x.read(5, 14, 0), n);
+            Due.bit(x, 0, letters.substring(n + 1, n + 10));
+            s.is("nine letters", x.lay(0, 5, 5), true);
+            s.is("of it and the next", x.words(5, 5), n < 11 ? 2 : 1);
+            Due.bit(x, 0, letters.substring(n + 1, n + 10) + ",");
+            s.is("its last nine letters", x.lay(0, 5, 5), true);
+            s.is("of it alone", x.words(5, 13), 1);
+            s.is("its number again", x.read(5, 5, 0), n);
+        }
     }
 
     private void wordsRefused() {
