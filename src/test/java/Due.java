@@ -25,6 +25,15 @@ final class Due {
         is(what, got ? 1L : 0L, want ? 1L : 0L);
     }
 
+    /** Counts a look at something, and tells a fault unless it is right. */
+    void holds(String fault, boolean right) {
+        asked++;
+        if (!right) {
+            wrong++;
+            System.out.println(fault);
+        }
+    }
+
     int wrong() {
         return wrong;
     }

@@ -37,7 +37,30 @@ public final class RulesTest {
         String source = Files.readString(Path.of("src/main/java/TornReeds.java"));
         source(source);
         methodsAreShort(source);
+        faceOfTheDocument();
         due.close();
+    }
+
+    /** The face above is the document's: what stands in its block, and at the head of each promise. */
+    private static void faceOfTheDocument() throws IOException {
+        Path document = Path.of("../shared/DOC.md");
+        if (!Files.exists(document)) {
+            System.out.println("there is no " + document + " to compare the face with");
+            return;
+        }
+        List<String> block = new ArrayList<>();
+        List<String> promises = new ArrayList<>();
+        for (String line : Files.readAllLines(document)) {
+            Matcher m = Pattern.compile("(    public |`)((?:int|boolean) \\w+\\([^)]*\\))[;`].*").matcher(line);
+            if (m.matches()) {
+                String bare = m.group(2).replaceAll("(int|boolean) \\w+(?=[,)])", "$1").replace(", ", ",");
+                (m.group(1).equals("`") ? promises : block).add(bare);
+            }
+        }
+        Collections.sort(block);
+        Collections.sort(promises);
+        due.holds("1: the document's face is " + block, block.equals(Arrays.asList(FACE)));
+        due.holds("1: the document's promises are of " + promises, promises.equals(Arrays.asList(FACE)));
     }
 
     private static void face() {
