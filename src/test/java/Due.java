@@ -1,5 +1,6 @@
 import java.nio.charset.StandardCharsets;
 import java.util.Arrays;
+import java.util.Random;
 
 /** What the tests share: counting wrong answers, and writing texts on a tape. */
 final class Due {
@@ -43,6 +44,11 @@ final class Due {
         if (wrong != 0) {
             System.exit(1);
         }
+    }
+
+    /** A seed's lot; seeds that follow each other would draw alike at first, so they are spread. */
+    static Random lot(int seed) {
+        return new Random(seed * 0x9E3779B97F4A7C15L);
     }
 
     /** The five numbers of each feed that a text takes, filled up with blanks. */

@@ -18,7 +18,7 @@ public final class PairJoinsTest {
     private final int numbers;
 
     private PairJoinsTest(int seed) {
-        lot = new Random(seed);
+        lot = Due.lot(seed);
         title = "pair " + seed + ": ";
         told = lot.nextInt(8);
         numbers = 1 + lot.nextInt(2);

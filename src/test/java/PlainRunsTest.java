@@ -33,7 +33,7 @@ public final class PlainRunsTest {
     private int calls = 0;
 
     private PlainRunsTest(int seed, String letters, int bits, int pairs, int words) {
-        this.lot = new Random(seed);
+        this.lot = Due.lot(seed);
         this.title = "run " + seed + ": ";
         this.letters = letters;
         this.bits = bits;
